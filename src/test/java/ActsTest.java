@@ -253,6 +253,12 @@ public final class ActsTest {
         Due.is("undo, none", x.undo(), -3);
         x.day();
         Due.is("acts again", x.about(11), 1);
+        Strawless strawy = sent("B0H40F09", 2);
+        strawy.day();
+        strawy.day();
+        strawy.undo();
+        Due.is("straw behind undo", strawy.about(3), 4);
+        Due.is("straws behind undo", strawy.field(0, 1), 5);
     }
 
     private static void undoEach() {

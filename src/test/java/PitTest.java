@@ -149,6 +149,13 @@ public final class PitTest {
         Due.is("anew: again(1)", x.again(1), -3);
         Due.is("anew: seed", x.seed(0), 77);
 
+        Strawless strawy = Due.of("B0H40F09");
+        strawy.send(0, 2);
+        strawy.day();
+        Due.is("straw", strawy.about(3), 4);
+        strawy.pit();
+        Due.is("anew: straw", strawy.about(3), 0);
+
         x = busy();
         Due.tell(x, "B0H10");
         Due.is("fewer", x.pit(), 10);

@@ -87,6 +87,13 @@ public final class PlansTest {
         strawy.day();
         Due.is("best(0), with straw", strawy.best(0), 1);
         Due.is("best(1), with straw", strawy.best(1), 3);
+        Strawless weighed = Due.of("B2H40H20H10H10F02");
+        weighed.makes(2222, 0);
+        Due.is("best(0) behind makes", weighed.best(0), 1200);
+        weighed.send(0, 2);
+        weighed.share(0, true);
+        Due.is("best(0) behind share", weighed.best(0), 1200);
+        Due.is("best(0) behind best", weighed.best(0), 1200);
         Strawless turned = Due.of("B5H40");
         turned.send(0, 1);
         turned.day();
@@ -120,6 +127,9 @@ public final class PlansTest {
         Due.is("ask, 4 straws for 6", x.ask(), 0);
         x.day();
         Due.is("ask, 8 straws for 6", x.ask(), 6);
+        x.send(0, 1);
+        x.day();
+        Due.is("ask, 2 straws for 6", x.ask(), 0);
         Strawless most = Due.of("B0H40H40H40H40H40F09F09");
         for (int hand = 0; hand < 5; hand++) {
             most.send(hand, 2 + hand % 2);
