@@ -213,7 +213,7 @@ public final class Strawless {
     }
 
     public int lasts() {
-        trial.become(now);
+        State.copy(now, trial);
         for (int days = 0; days < MOST_LASTING; days++) {
             work.reckon(gang, trial, trial.tasks);
             if (work.sound < gang.count) {
@@ -247,8 +247,8 @@ public final class Strawless {
         }
         int more = 0;
         for (int come = 0; come < 1 << gang.hands; come++) {
-            if ((come >> hand & 1) == 0) {
-                int gain = soundOfComers(come | 1 << hand) - soundOfComers(come);
+            if (((come >> hand) & 1) == 0) {
+                int gain = soundOfComers(come | (1 << hand)) - soundOfComers(come);
                 more += gain * ordersBehind(Integer.bitCount(come));
             }
         }
@@ -342,7 +342,7 @@ public final class Strawless {
         if (m < 1 || m > MOST_YEARS) {
             return BAD;
         }
-        trial.become(now);
+        State.copy(now, trial);
         for (int year = 0; year < m; year++) {
             theSeed = theSeed * SEED_FACTOR + SEED_STEP;
             int pair = (int) ((theSeed >>> UPPER_31) % SEED_PAIRS);
@@ -392,7 +392,7 @@ public final class Strawless {
     /** The SOUND bricks of a DAY for which only the HANDS in the set have come. */
     private int soundOfComers(int come) {
         for (int hand = 0; hand < MOST_HANDS; hand++) {
-            plans.tasks[hand] = (come >> hand & 1) == 1 ? now.tasks[hand] : RESTING;
+            plans.tasks[hand] = ((come >> hand) & 1) == 1 ? now.tasks[hand] : RESTING;
         }
         work.reckon(gang, now, plans.tasks);
         return work.sound;
@@ -607,7 +607,7 @@ public final class Strawless {
         static final int EMPTY = 1;
 
         static int of(int height, int sound) {
-            return 1 << height | sound;
+            return (1 << height) | sound;
         }
 
         static int heightOf(int wall) {
@@ -624,17 +624,18 @@ public final class Strawless {
 
         static int withCourse(int wall, int sound) {
             int height = heightOf(wall);
-            return of(height + 1, soundOf(wall) | sound << height);
+            return of(height + 1, soundOf(wall) | (sound << height));
         }
 
         static int behindRain(int wall) {
-            int lowestHollow = ~wall & wall + 1;
+            // the 1 that tells the height comes down with what is above
+            int lowestHollow = ~wall & (wall + 1);
             if (lowestHollow > wall) {
                 return wall;
             }
-            int below = wall & lowestHollow - 1;
+            int below = wall & (lowestHollow - 1);
             int above = wall & -lowestHollow;
-            return above >> 1 | below;
+            return (above >> 1) | below;
         }
 
         static int behindRains(int wall, int rains) {
@@ -646,7 +647,7 @@ public final class Strawless {
         }
 
         static int courseAt(int wall, int course) {
-            return course >= heightOf(wall) ? NOT_THERE : wall >> course & 1;
+            return course >= heightOf(wall) ? NOT_THERE : (wall >> course) & 1;
         }
     }
 
@@ -674,16 +675,19 @@ public final class Strawless {
             days = 0;
         }
 
-        void become(State other) {
-            System.arraycopy(other.tasks, 0, tasks, 0, MOST_HANDS);
-            System.arraycopy(other.straws, 0, straws, 0, MOST_FIELDS);
-            straw = other.straw;
-            sound = other.sound;
-            hollow = other.hollow;
-            turned = other.turned;
-            wall = other.wall;
-            blows = other.blows;
-            days = other.days;
+        static void copy(State from, State to) {
+            if (from == null || to == null) {
+                return;
+            }
+            System.arraycopy(from.tasks, 0, to.tasks, 0, MOST_HANDS);
+            System.arraycopy(from.straws, 0, to.straws, 0, MOST_FIELDS);
+            to.straw = from.straw;
+            to.sound = from.sound;
+            to.hollow = from.hollow;
+            to.turned = from.turned;
+            to.wall = from.wall;
+            to.blows = from.blows;
+            to.days = from.days;
         }
 
         void endDay(Gang gang, Work work) {
@@ -847,7 +851,7 @@ public final class Strawless {
         }
 
         void remember(State now) {
-            before[next].become(now);
+            State.copy(now, before[next]);
             next = (next + 1) % MOST_ACTS;
             size = Math.min(size + 1, MOST_ACTS);
         }
@@ -856,7 +860,7 @@ public final class Strawless {
             if (size > 0) {
                 next = (next + MOST_ACTS - 1) % MOST_ACTS;
                 size--;
-                now.become(before[next]);
+                State.copy(before[next], now);
             }
         }
     }
@@ -884,14 +888,14 @@ public final class Strawless {
 
         void store(int slot, State now) {
             if (has(slot)) {
-                kept[slot].become(now);
+                State.copy(now, kept[slot]);
                 used[slot] = true;
             }
         }
 
         void bringBack(int slot, State now) {
             if (has(slot) && used[slot]) {
-                now.become(kept[slot]);
+                State.copy(kept[slot], now);
             }
         }
     }
