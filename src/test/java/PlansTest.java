@@ -88,7 +88,7 @@ public final class PlansTest {
         Due.is("best(0), with straw", strawy.best(0), 1);
         Due.is("best(1), with straw", strawy.best(1), 3);
         Strawless weighed = Due.of("B2H40H20H10H10F02");
-        weighed.makes(2222, 0);
+        weighed.makes(2000, 0);
         Due.is("best(0) behind makes", weighed.best(0), 1200);
         weighed.send(0, 2);
         weighed.share(0, true);
