@@ -15,16 +15,6 @@ public final class ActsTest {
         Due.end();
     }
 
-    private static Strawless sent(String text, int... tasks) {
-        Strawless x = Due.of(text);
-        for (int hand = 0; hand < tasks.length; hand++) {
-            if (tasks[hand] != 0) {
-                x.send(hand, tasks[hand]);
-            }
-        }
-        return x;
-    }
-
     private static void bricksAre(String what, Strawless x, int straw, int sound, int hollow) {
         Due.is(what + ": straw", x.about(3), straw);
         Due.is(what + ": sound", x.about(4), sound);
@@ -33,13 +23,13 @@ public final class ActsTest {
 
     private static void dayMoulds() {
         Due.is("all rest", Due.of("B3H40H31").day(), 0);
-        Due.is("plain", sent("B0H40", 1).day(), 4);
-        Due.is("strong", sent("B0H41", 1).day(), 6);
-        Due.is("slow", sent("B0H42", 1).day(), 3);
-        Due.is("slow 1", sent("B0H12", 1).day(), 0);
-        Due.is("child", sent("B0H43", 1).day(), 0);
-        Due.is("9 of 9", sent("B0H41H11", 1, 1).day(), 9);
-        Strawless x = sent("B0H41H40F09", 1, 1);
+        Due.is("plain", Due.sent("B0H40", 1).day(), 4);
+        Due.is("strong", Due.sent("B0H41", 1).day(), 6);
+        Due.is("slow", Due.sent("B0H42", 1).day(), 3);
+        Due.is("slow 1", Due.sent("B0H12", 1).day(), 0);
+        Due.is("child", Due.sent("B0H43", 1).day(), 0);
+        Due.is("9 of 9", Due.sent("B0H41H11", 1, 1).day(), 9);
+        Strawless x = Due.sent("B0H41H40F09", 1, 1);
         Due.is("9 of 10", x.day(), 9);
         bricksAre("9 of 10", x, 0, 0, 9);
         Due.is("the day", x.about(10), 1);
@@ -48,22 +38,22 @@ public final class ActsTest {
     private static void dayGathers() {
         int[] straw = {4, 3, 2, 1, 3, 2, 1, 0};
         for (int far = 0; far <= 3; far++) {
-            Strawless plain = sent("B0H40F" + far + "9", 2);
+            Strawless plain = Due.sent("B0H40F" + far + "9", 2);
             plain.day();
             Due.is("plain, far " + far, plain.about(3), straw[far]);
-            Strawless slow = sent("B0H42F" + far + "9", 2);
+            Strawless slow = Due.sent("B0H42F" + far + "9", 2);
             slow.day();
             Due.is("slow, far " + far, slow.about(3), straw[4 + far]);
-            Strawless weak = sent("B0H13F" + far + "9", 2);
+            Strawless weak = Due.sent("B0H13F" + far + "9", 2);
             weak.day();
             Due.is("weak, far " + far, weak.about(3), far == 0 ? 1 : 0);
             Due.is("weak leaves, far " + far, weak.field(0, 1), far == 0 ? 8 : 9);
         }
-        Strawless strong = sent("B0H41F09", 2);
+        Strawless strong = Due.sent("B0H41F09", 2);
         strong.day();
         Due.is("strong gathers", strong.about(3), 4);
 
-        Strawless x = sent("B0H30H30H30F05F12", 2, 2, 3);
+        Strawless x = Due.sent("B0H30H30H30F05F12", 2, 2, 3);
         Due.is("none moulds", x.day(), 0);
         bricksAre("two in one field", x, 7, 0, 0);
         Due.is("field 0 is bare", x.field(0, 1), 0);
@@ -77,13 +67,13 @@ public final class ActsTest {
         Due.is("moulds", x.day(), 6);
         bricksAre("no straw", x, 0, 7, 8);
 
-        Strawless same = sent("B0H30H30F09", 1, 2);
+        Strawless same = Due.sent("B0H30H30F09", 1, 2);
         Due.is("gathered ahead of moulding", same.day(), 3);
         bricksAre("gathered ahead of moulding", same, 0, 3, 0);
     }
 
     private static void dayGivesBlows() {
-        Strawless x = sent("B6H40", 1);
+        Strawless x = Due.sent("B6H40", 1);
         x.day();
         Due.is("2 missing", x.about(9), 2);
         x.turn(1);
@@ -135,7 +125,7 @@ public final class ActsTest {
     }
 
     private static void turn() {
-        Strawless x = sent("B9H31H10F09", 1, 2);
+        Strawless x = Due.sent("B9H31H10F09", 1, 2);
         x.day();
         bricksAre("for turning", x, 0, 1, 4);
         Due.is("turn(0)", x.turn(0), -2);
@@ -153,7 +143,7 @@ public final class ActsTest {
         Due.is("about(6)", x.about(6), 5);
         Due.is("acts", x.about(11), 5);
         Due.is("bricks stay", x.about(4) + x.about(5), 5);
-        Strawless y = sent("B9H41H40", 1, 1);
+        Strawless y = Due.sent("B9H41H40", 1, 1);
         y.day();
         Due.is("turn(9)", y.turn(9), 9);
         y.day();
@@ -162,7 +152,7 @@ public final class ActsTest {
 
     /** The document lets a course be laid of bricks that are turned: only 2 such bricks are asked. */
     private static void turnedAndLaid() {
-        Strawless x = sent("B6H40", 1);
+        Strawless x = Due.sent("B6H40", 1);
         x.day();
         Due.is("turn(4)", x.turn(4), 4);
         Due.is("lay(0)", x.lay(0), 1);
@@ -173,7 +163,7 @@ public final class ActsTest {
     }
 
     private static void lay() {
-        Strawless x = sent("B0H41H41H40F09", 1, 0, 2);
+        Strawless x = Due.sent("B0H41H41H40F09", 1, 0, 2);
         Due.is("lay(1), no bricks", x.lay(1), -3);
         Due.is("lay(0), no bricks", x.lay(0), -3);
         x.day();
@@ -192,14 +182,14 @@ public final class ActsTest {
         Due.is("height", x.about(7), 3);
         Due.is("acts", x.about(11), 6);
 
-        Strawless odd = sent("B0H31F09", 1);
+        Strawless odd = Due.sent("B0H31F09", 1);
         odd.day();
         Due.is("lay(0)", odd.lay(0), 1);
         Due.is("lay(0)", odd.lay(0), 2);
         Due.is("lay(0), one is left", odd.lay(0), -3);
         Due.is("one is left", odd.about(5), 1);
 
-        Strawless high = sent("B0H41H40", 1, 1);
+        Strawless high = Due.sent("B0H41H40", 1, 1);
         high.day();
         high.day();
         for (int n = 1; n <= 8; n++) {
@@ -253,7 +243,7 @@ public final class ActsTest {
         Due.is("undo, none", x.undo(), -3);
         x.day();
         Due.is("acts again", x.about(11), 1);
-        Strawless strawy = sent("B0H40F09", 2);
+        Strawless strawy = Due.sent("B0H40F09", 2);
         strawy.day();
         strawy.day();
         strawy.undo();
@@ -265,18 +255,18 @@ public final class ActsTest {
         Strawless x = Due.of("B8H41H40H20F09F14");
         String[] prints = new String[13];
         for (int n = 0; n < 12; n++) {
-            prints[n] = Due.print(x);
+            prints[n] = Due.printOfActs(x);
             act(x, n);
         }
-        prints[12] = Due.print(x);
+        prints[12] = Due.printOfActs(x);
         x.see(1, 1, 1);
         x.unsee();
         x.keep(0);
         for (int n = 12; n > 0; n--) {
-            Due.same("before undo " + n, Due.print(x), prints[n]);
+            Due.same("before undo " + n, Due.printOfActs(x), prints[n]);
             Due.is("undo " + n, x.undo(), n - 1);
         }
-        Due.same("all undone", Due.print(x), prints[0]);
+        Due.same("all undone", Due.printOfActs(x), prints[0]);
         Due.is("undo leaves the slot", x.again(0), 4);
     }
 

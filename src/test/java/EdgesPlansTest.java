@@ -183,6 +183,14 @@ public final class EdgesPlansTest {
         bestIs("B0H30H30F00F00F09", 14, 3);
         bestIs("B0H30H30H30F03", 12, 3);
         bestIs("B0H30H30H30H30H30F03", 12, 3);
+        Due.promise(16, "the least as a number also behind other questions");
+        Strawless x = Due.sent("B0H30H30H30F03F03", 2);
+        for (int n = 0; n < 3; n++) {
+            Due.is("best(0)", x.best(0), 12);
+            x.makes(213, 0);
+            Due.is("best(0) behind makes", x.best(0), 12);
+            x.share(0, true);
+        }
     }
 
     private static void bestWhat() {
@@ -232,6 +240,11 @@ public final class EdgesPlansTest {
         Due.is("ask(), 4 STRAW for 4", x.ask(), 4);
         x.day();
         Due.is("ask(), 8 STRAW for 5", x.ask(), 5);
+        Due.promise(18, "what an earlier call answered does not stay");
+        x.send(0, 1);
+        x.day();
+        x.day();
+        Due.is("ask(), no STRAW, 1 left in the FIELD", x.ask(), 1);
     }
 
     private static void askNineAtMost() {
