@@ -1,3 +1,6 @@
+import java.io.ByteArrayOutputStream;
+import java.io.PrintStream;
+
 /** What the tests share: answers that are due, pits from texts, and a print of all that the face tells. */
 final class Due {
     private static final boolean[] named = new boolean[31];
@@ -43,6 +46,16 @@ final class Due {
             is("promise " + number + " is tested", named[number] ? 1 : 0, 1);
         }
         end();
+    }
+
+    /** What a program prints. */
+    static String printed(Runnable program) {
+        PrintStream out = System.out;
+        ByteArrayOutputStream bytes = new ByteArrayOutputStream();
+        System.setOut(new PrintStream(bytes, true));
+        program.run();
+        System.setOut(out);
+        return bytes.toString().replace(System.lineSeparator(), "\n");
     }
 
     static void tell(Strawless x, String text) {
